@@ -362,6 +362,8 @@ public final class PromisesTest {
             {"gc/gc;r0001,r0001,r0001,r0001,r0001,r0001", 35}, {"gc/gc;r0001,r0001,r0001,r0001,r0001x", 35},
             {row8 + "g", 8}, {row8 + "/" + row8 + "g", 17}, {eight + "/", 71}, {eight + "g", 71},
             {eight + ";r8", 73}, {eight + ";r78", 74}, {eight + ";r77", 75},
+            {"gr0001", 1}, {"gcr0001", 2}, {"gc/gr0001", 4}, {"gc/gcr0001", 5}, {eight + "r0001", 71},
+            {"gc/gc;0001", 6}, {"gc/gc;0", 6}, {"gc/gc;r001,r0001", 10},
             {" g c / g c ; x", 13}, {"g  x", 3}, {"gc/gc;r1149  x", 13}, {"gc/gc;r1149,  ", 14}, {"gc/gc; r 1 2", 11},
         };
         LawnRings x = new LawnRings();
@@ -849,10 +851,34 @@ public final class PromisesTest {
         due("of 20 too wet", x.turns(20, NONE), 1);
         x.rule(0, 1);
         due("in the wind there is no way", x.turns(3, NONE), 1);
+        turnsOfFive();
         int[][] wrong = {{0, NONE}, {21, NONE}, {1, -1}, {1, 2}, {1, -3}, {1, -5}, {LOW, HIGH}};
         for (int[] w : wrong) {
             due("wrong turns", x.turns(w[0], w[1]), BAD);
         }
+    }
+
+    private static void turnsOfFive() {
+        LawnRings x = new LawnRings();
+        Due.garden(x, "gg/gg;d0001,d0101,d1001,d1101,e0011");
+        x.rule(3, 16);
+        x.turn(4, 1);
+        x.minutes(6);
+        x.turn(0, 1);
+        x.minutes(1);
+        x.turn(4, 0);
+        x.minutes(1);
+        cells(x, 1, 11, 7, 7, 7);
+        // LEAST, how many are wrong, how long each: of 14 the last three can't be, so 1 and 1 for the first (2 and 0 is later)
+        int[][] ways = {{12, 0, 0, 2, 2, 2, 1}, {13, 0, 0, 2, 2, 2, 2}, {14, 3, 1, 0, 0, 0, 1}};
+        for (int[] way : ways) {
+            x.rule(2, way[0]);
+            due("of five, least " + way[0], x.turns(1, NONE), way[1]);
+            for (int i = 0; i < 5; i++) {
+                due("of five, least " + way[0] + ": " + i, x.turns(1, i), way[2 + i]);
+            }
+        }
+        due("nothing is changed", x.count(10), 32);
     }
 
     private static void image() {
@@ -919,6 +945,32 @@ public final class PromisesTest {
         }
         due("the tape is as it is now", x.type(103), 3);
         due("sheets are as they are now", x.drop(0), 7);
+        restoreKnowsAllSteps();
+    }
+
+    private static void restoreKnowsAllSteps() {
+        LawnRings x = new LawnRings();
+        Due.garden(x, "pp/pp;d0009,d0003");
+        x.turn(0, 1);
+        x.minutes(6);
+        x.move(1, 2);
+        x.minutes(4);
+        x.image();
+        due("runoff", x.count(9), 60);
+        x.move(1, 3);
+        x.sun(9);
+        x.drift(60);
+        x.restore();
+        due("runoff", x.count(9), 60);
+        for (int left = 7; left >= 0; left--) {
+            due("undo()", x.undo(), left);
+            int minute = left > 3 ? left + 2 : left + 3;
+            due("the minute", x.count(4), minute);
+            due("wet", x.count(10), 2 * minute);
+            due("runoff", x.count(9), 6 * minute);
+            due("where one stands", x.of(1, 1), left > 3 ? 2 : 0);
+        }
+        due("undo()", x.undo(), NONE);
     }
 
     private static void put(LawnRings x, int sheet, int lane, long... items) {
@@ -974,6 +1026,13 @@ public final class PromisesTest {
             due("an item is wrong", x.tins(0, 2, i, 1, 1, 0), NOT);
         }
         due("a later item is wrong", x.tins(0, 2, 0, 3, 1, 1), NOT);
+        put(x, 3, 2, 0, 0, 1, 10000);
+        due("a later item is wrong", x.tins(3, 2, 0, 2, 1, 1), NOT);
+        put(x, 3, 2, 0, 0, 1, -1);
+        due("a later item is wrong", x.tins(3, 2, 0, 2, 1, 1), NOT);
+        put(x, 3, 2, 0, 0, 1, 9999);
+        due("a later item is as told", x.tins(3, 2, 0, 2, 1, 0), 0);
+        x.drop(3);
         int[][] bad = {{-1, 2, 0, 1, 1, 0}, {4, 2, 0, 1, 1, 0}, {0, -1, 0, 1, 1, 0}, {0, 4, 0, 1, 1, 0},
             {0, 2, 0, 0, 1, 0}, {0, 2, 0, 9, 1, 0}, {0, 2, 0, 1, 0, 0}, {0, 2, 0, 1, 21, 0}, {0, 2, 0, 1, 1, -1},
             {0, 2, 0, 1, 1, 2}, {1, 2, 0, 0, 1, 0}, {0, 1, 0, 9, 1, 0}, {0, 2, 99, 1, 0, 0}, {1, 1, -1, 1, 1, 2},
@@ -1038,6 +1097,15 @@ public final class PromisesTest {
         due("index", x.film(0, 24, 0, 1, HIGH), INDEX);
         due("index", x.film(0, 24, 0, 1, LOW), INDEX);
         due("the last item", x.film(0, 1, 0, 1, 9), 1);
+        put(x, 2, 2, 9, 9, 9, 9);
+        x.film(0, 2, 2, 2, 1);
+        x.sprinkler(1, 0, 0, 1);
+        int[] around = {9, 0, 0, 9};
+        x.copy(2, 0, 3, 0, 4);
+        x.copy(2, 0, 3, 5, 4);
+        for (int i = 0; i < 4; i++) {
+            holds(x, 3, 2, 5 + i, around[i]);
+        }
     }
 
     private static void filmCuts() {

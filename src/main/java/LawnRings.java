@@ -14,6 +14,7 @@ public final class LawnRings {
     private static final int GRASS = 0, CLAY = 1, PATH = 2;
     private static final int CLAY_TAKES = 5, PATH_TAKES = 1, PATH_BEARS = 9;
     private static final int RING = 0, EVEN = 1, QUARTER = 2, DRIPPER = 3, WIDE = 4;
+    private static final int LOWEST_31_BITS = 0x7fffffff, MORE_THAN_ALL = MOST_CELLS + 1;
     private static final int KNOWN_STEPS = 8, STEP_SIZE = MOST_CELLS + MOST_SPRINKLERS + 3;
 
     private final Plot now = new Plot();
@@ -621,7 +622,7 @@ public final class LawnRings {
         }
 
         int drawWind() {
-            draw = draw * 1103515245 + 12345 & Integer.MAX_VALUE;
+            draw = (draw * 1103515245 + 12345) & LOWEST_31_BITS;
             return draw / 65536 % 4;
         }
 
@@ -773,7 +774,7 @@ public final class LawnRings {
         void findStand(int sprinkler, int n) {
             flow.run(plot, plot.on & ~(1 << sprinkler), plot.wind);
             System.arraycopy(flow.falls, 0, others, 0, MOST_CELLS);
-            fewest = Integer.MAX_VALUE;
+            fewest = MORE_THAN_ALL;
             for (int place = 0; place < plot.cells(); place++) {
                 int wrong = wrongFrom(plot.sprinklers[sprinkler], place, n);
                 if (wrong < fewest) {
@@ -792,7 +793,7 @@ public final class LawnRings {
         }
 
         void findSet(int n) {
-            fewest = Integer.MAX_VALUE;
+            fewest = MORE_THAN_ALL;
             choice = 0;
             for (int who = 0; who < 1 << plot.standing; who++) {
                 int many = Integer.bitCount(who);
@@ -812,15 +813,15 @@ public final class LawnRings {
                 System.arraycopy(flow.takes, 0, alone[i], 0, MOST_CELLS);
             }
             System.arraycopy(plot.wet, 0, behind[0], 0, MOST_CELLS);
-            fewest = Integer.MAX_VALUE;
-            shortest = Integer.MAX_VALUE;
+            fewest = MORE_THAN_ALL;
+            shortest = 0;
             tryTurnsFrom(0, m, 0);
         }
 
         /** Tries all turns of the sprinklers from one on, rising, behind what is tried for those ahead of it. */
         private void tryTurnsFrom(int sprinkler, int m, int together) {
             if (sprinkler >= plot.standing || sprinkler >= MOST_SPRINKLERS) {
-                weighTurns(behind[plot.standing], together);
+                weighTurns(behind[sprinkler], together);
                 return;
             }
             for (int times = 0; times <= 2; times++) {

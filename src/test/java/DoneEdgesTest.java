@@ -11,6 +11,7 @@ public final class DoneEdgesTest {
         eightSteps();
         stepsWrapAround();
         undone();
+        undoneToTheLastCell();
         nothingToBeUndone();
         draw();
         drift();
@@ -318,6 +319,40 @@ public final class DoneEdgesTest {
             """);
     }
 
+    private static void undoneToTheLastCell() {
+        edge("how WET CELLS are, on which CELLS SPRINKLERS stand: to the last of 64, of 5", """
+            lawn(8, 8) = 64
+            sprinkler(3, 0, 0, 1) = 0
+            sprinkler(3, 1, 0, 1) = 1
+            sprinkler(3, 2, 0, 1) = 2
+            sprinkler(3, 3, 0, 1) = 3
+            sprinkler(3, 63, 0, 1) = 4
+            of(4, 5) = 2
+            turn(4, 1) = 1
+            minutes(2) = 64
+            sun(1) = 3
+            move(4, 62) = 63
+            move(3, 61) = 3
+            undo() = 4
+            of(3, 1) = 3
+            of(4, 1) = 62
+            undo() = 3
+            of(4, 1) = 63
+            cell(63, 1) = 3
+            undo() = 2
+            cell(63, 1) = 4
+            undo() = 1
+            cell(63, 1) = 2
+            undo() = 0
+            cell(63, 1) = 0
+            of(0, 1) = 0
+            of(1, 1) = 1
+            of(2, 1) = 2
+            of(3, 1) = 3
+            of(4, 1) = 63
+            """);
+    }
+
     private static void nothingToBeUndone() {
         edge("a GARDEN leaves nothing to be UNDONE", """
             minutes(9)
@@ -499,6 +534,60 @@ public final class DoneEdgesTest {
             count(12) = 8
             undo() x 8 = 0
             count(4) = 2
+            """);
+        edge("Promise 25: what may be UNDONE is as it was then, whatever was done since", """
+            sprinkler(0, 0, 0, 1) = 0
+            move(0, 1)
+            move(0, 2)
+            move(0, 3)
+            move(0, 4)
+            move(0, 5)
+            move(0, 6)
+            move(0, 7)
+            move(0, 8)
+            image() = 1
+            move(0, 11)
+            move(0, 12)
+            move(0, 13)
+            move(0, 14)
+            move(0, 15)
+            move(0, 16)
+            move(0, 17)
+            move(0, 18)
+            move(0, 19)
+            restore() = 1
+            of(0, 1) = 8
+            undo() = 7
+            of(0, 1) = 7
+            undo() = 6
+            of(0, 1) = 6
+            undo() = 5
+            of(0, 1) = 5
+            undo() = 4
+            of(0, 1) = 4
+            undo() = 3
+            of(0, 1) = 3
+            undo() = 2
+            of(0, 1) = 2
+            undo() = 1
+            of(0, 1) = 1
+            undo() = 0
+            of(0, 1) = 0
+            undo() = NONE
+            """);
+        edge("Promise 25: the last of 64 CELLS is as it was then", """
+            lawn(8, 8) = 64
+            soil(63, 2) = 0
+            sprinkler(3, 63, 0, 1) = 0
+            turn(0, 1)
+            minutes(3)
+            image() = 1
+            soil(63, 1) = 2
+            sun(2)
+            restore() = 1
+            cell(63, 0) = 2
+            cell(63, 1) = 3
+            count(9) = 3
             """);
         edge("Promise 25: rules and THE DRAW at their least and most", """
             rule(0, 3)

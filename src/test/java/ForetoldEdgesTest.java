@@ -14,6 +14,8 @@ public final class ForetoldEdgesTest {
         setOfLikeOnes();
         turns();
         turnsOfLikeOnes();
+        toTheLastCell();
+        allWrong();
         Due.end();
     }
 
@@ -425,6 +427,11 @@ public final class ForetoldEdgesTest {
             turns(1, 0) = 0
             turns(1, 1) = 0
             turns(1, 2) = 1 // not 1 and 1 of the first two
+            text("gg/pp;e0012,d0001,d0101") = 4
+            turns(3, NONE) = 0
+            turns(3, 0) = 3 // though 3 and 3 of the others come first
+            turns(3, 1) = 0
+            turns(3, 2) = 0
             """);
         edge("of these the first (rising by the first SPRINKLER's, then the next one's)", """
             text("gp/pp;d0001,d0001,d0001") = 4
@@ -472,6 +479,77 @@ public final class ForetoldEdgesTest {
             turns(1, 0) = 1
             turns(1, 1) = 1
             count(3) = 2
+            """);
+    }
+
+    private static void toTheLastCell() {
+        String path = "pppppppp/".repeat(7);
+        edge("STAND on 64 CELLS, beside one that is ON", """
+            text("PATH/ppppppgg;d7701,d0001") = 64
+            rule(2, 2)
+            turn(0, 1)
+            stand(1, 1, 0) = 62
+            stand(1, 1, 1) = 0
+            """.replace("PATH/", path));
+        edge("STAND on 64 CELLS: the last, where it wets least PATH", """
+            text("PATH/pppppppg;e0012") = 64
+            rule(2, 10)
+            rule(3, 10)
+            stand(0, 10, 0) = 63
+            stand(0, 10, 1) = 3
+            """.replace("PATH/", path));
+        edge("STAND: on a CELL, not beyond the last", """
+            text("gg/gg;d0001") = 4
+            rule(2, 0)
+            rule(3, 0)
+            stand(0, 1, 0) = 0
+            stand(0, 1, 1) = 1
+            """);
+        edge("TURNS on 64 CELLS, from how WET they are now", """
+            text("PATH/pppppppg;d7701") = 64
+            rule(2, 2)
+            turns(1, 0) = 1
+            turn(0, 1)
+            minutes(1) = 0
+            rule(2, 4)
+            turns(1, NONE) = 0
+            turns(1, 0) = 1
+            rule(2, 6)
+            turns(1, NONE) = 0
+            turns(1, 0) = 2
+            """.replace("PATH/", path));
+    }
+
+    private static void allWrong() {
+        edge("fewest: all of 64 CELLS, whatever was found earlier", """
+            text("pp/pg;d1101") = 4
+            rule(2, 4)
+            turns(1, 0) = 2
+            stand(0, 2, 0) = 3
+            lawn(8, 8) = 64
+            sprinkler(0, 5, 0, 1) = 0
+            rule(2, 10)
+            stand(0, 40, 1) = 64 // MOST is 20: where it stands, it is too WET
+            stand(0, 40, 0) = 0
+            set(40, 1) = 64
+            set(40, 0) = 0
+            turns(1, NONE) = 64
+            turns(1, 0) = 0
+            wrongs(0, 0) = 64
+            wrongs(99, 1) = 64
+            """);
+        edge("TURNS of the SPRINKLERS that there are, not of older ones", """
+            text("gp/pp;d0001,d0001") = 4
+            rule(2, 4)
+            turns(1, NONE) = 0
+            turns(1, 1) = 2
+            text("gp/pp;r1101") = 4
+            turns(1, NONE) = 1
+            turns(1, 0) = 0
+            turns(1, 1) = BAD
+            lawn(2, 2) = 4
+            turns(1, NONE) = 4
+            set(1, 0) = 0
             """);
     }
 }

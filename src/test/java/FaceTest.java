@@ -78,6 +78,8 @@ public final class FaceTest {
             Due.that(c + " has no more than twenty fields", fields <= 20);
             for (Method m : c.getDeclaredMethods()) {
                 Due.that(m + " has no more than seven parameters", m.getParameterCount() <= 7);
+                Due.that(m + " bears no public name, if private", !Modifier.isPrivate(m.getModifiers())
+                    || Arrays.stream(METHODS).noneMatch(open -> open.startsWith(m.getName() + "(")));
             }
         }
     }

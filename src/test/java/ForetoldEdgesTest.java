@@ -16,6 +16,7 @@ public final class ForetoldEdgesTest {
         turnsOfLikeOnes();
         toTheLastCell();
         allWrong();
+        inWind();
         Due.end();
     }
 
@@ -550,6 +551,52 @@ public final class ForetoldEdgesTest {
             lawn(2, 2) = 4
             turns(1, NONE) = 4
             set(1, 0) = 0
+            """);
+    }
+
+    private static void inWind() {
+        edge("by .. WIND as they are: each that is FORETOLD, by WIND 0, 1, 3", """
+            text("pgp/ppp;d0001") = 6
+            rule(2, 2)
+            sheet(0, 2, 2)
+            item(0, 2, 0, 1)
+            item(0, 2, 1, 2)
+            turn(0, 1)
+            ahead(1, 1) = 0
+            wrongs(1, 0) = 1
+            wrongs(1, 1) = 1
+            enough() = NONE
+            stand(0, 1, 0) = 1
+            stand(0, 1, 1) = 0
+            set(1, 0) = 0
+            set(1, 1) = 1
+            turns(1, NONE) = 1
+            turns(1, 0) = 0
+            tins(0, 2, 0, 1, 1, 1) = NONE
+            rule(0, 1) = 0
+            ahead(1, 1) = 2
+            wrongs(1, 0) = 0
+            wrongs(1, 1) = 0
+            enough() = 1
+            stand(0, 1, 0) = 0
+            stand(0, 1, 1) = 0
+            set(1, 0) = 1
+            set(1, 1) = 0
+            turns(1, NONE) = 0
+            turns(1, 0) = 1
+            tins(0, 2, 0, 1, 1, 1) = 1
+            rule(0, 3) = 1
+            ahead(1, 1) = 0
+            wrongs(1, 0) = 1
+            wrongs(1, 1) = 1
+            enough() = NONE
+            stand(0, 1, 0) = 0
+            stand(0, 1, 1) = 1
+            set(1, 0) = 0
+            set(1, 1) = 1
+            turns(1, NONE) = 1
+            turns(1, 0) = 0
+            tins(0, 2, 0, 1, 1, 1) = NONE
             """);
     }
 }

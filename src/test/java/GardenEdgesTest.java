@@ -252,6 +252,20 @@ public final class GardenEdgesTest {
             of(0, 4) = 0
             of(1, 0) = BAD
             """);
+        edge("a GARDEN is nothing to the IMAGE, to SHEETS", """
+            minutes(3)
+            image() = 1
+            sheet(0, 0, 1)
+            sheet(3, 3, 24)
+            text("gg/gg;r0001") = 4
+            drop(0) = 1
+            drop(3) = 24
+            restore() = 1
+            counts() = 4 5 0 0 3 0 2 10 20 0 0 20 3
+            text("gg/gg;r0001,r0001") = 4
+            restore() = 1
+            count(2) = 0
+            """);
         edge("(WIND, TAP, LEAST, MOST, THE DRAW stay)", """
             rule(0, 3)
             rule(1, 5)

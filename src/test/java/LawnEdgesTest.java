@@ -448,6 +448,23 @@ public final class LawnEdgesTest {
             count(9) = 0
             of(0, 5) = 132
             """);
+        edge("what a CELL takes, what runs off it, by WIND", """
+            text("gpp/gcp;d0008") = 6
+            turn(0, 1) = 1
+            cells(3) = 8 0 0  0 0 0
+            rule(0, 1) = 0
+            cells(3) = 0 1 0  0 5 0
+            rule(0, 2) = 1
+            cells(3) = 0 0 1  0 0 1
+            rule(0, 3) = 2
+            cells(3) = 0 0 0  0 0 0
+            rule(0, 1) = 3
+            minutes(1)
+            count(9) = 2
+            rule(0, 2) = 1
+            minutes(1)
+            count(9) = 8
+            """);
         edge("what falls lies behind REACH by WIND", """
             text("gggggggg/gggggggg;e0042") = 16
             turn(0, 1) = 1
@@ -779,6 +796,27 @@ public final class LawnEdgesTest {
             count(10) = 0
             cell(63, 0) = 0
             cell(63, 1) = 0
+            """);
+        edge("Promise 2: what it does not name stays: rules, THE DRAW, THE TAPE, the IMAGE, SHEETS", """
+            rule(0, 3)
+            rule(1, 5)
+            rule(2, 7)
+            rule(3, 8)
+            seed(HIGH)
+            minutes(2)
+            image() = 1
+            typed("gg/gg;") = 6
+            sheet(0, 1, 3)
+            sheet(3, 3, 24)
+            lawn(2, 3) = 6
+            counts() = 2 3 0 0 0 3 5 7 8 0 0 6 0
+            seed(HIGH) = HIGH
+            drop(0) = 3
+            drop(3) = 24
+            typed("r0001") = 11
+            garden() = 4
+            restore() = 1
+            counts() = 4 5 0 0 2 3 5 7 8 0 0 20 2
             """);
         edge("Promise 5: 0 .. 5; BAD", """
             sprinkler(2, 7, 1, 2) = 0
